@@ -44,7 +44,6 @@ public final class ContourSimplifier {
     private static final int DIRECTIONS = 4;
     private static final int[] STEP_X = {1, 0, -1, 0};
     private static final int[] STEP_Y = {0, 1, 0, -1};
-    private static final char[] DIRECTION_LETTERS = {'R', 'D', 'L', 'U'};
     /** The pixel at the right hand of an arrow, as seen from the corner where the arrow begins. */
     private static final int[] HAND_X = {0, -1, -1, 0};
     private static final int[] HAND_Y = {0, 0, -1, -1};
@@ -724,13 +723,10 @@ public final class ContourSimplifier {
 
         private int directionLetter(int v) {
             int w = tracedAfter(v);
-            for (int d = 0; d < DIRECTIONS; d++) {
-                if (Integer.signum(xs[w] - xs[v]) == STEP_X[d]
-                        && Integer.signum(ys[w] - ys[v]) == STEP_Y[d]) {
-                    return DIRECTION_LETTERS[d];
-                }
+            if (ys[w] == ys[v]) {
+                return xs[w] > xs[v] ? 'R' : 'L';
             }
-            return ABSENT;
+            return ys[w] > ys[v] ? 'D' : 'U';
         }
 
         private int wayDigit(int v, int digitsBehind) {

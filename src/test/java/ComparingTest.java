@@ -156,5 +156,17 @@ public final class ComparingTest {
         t.remove(0, 4);
         t.remove(0, 3);
         fraction("to the end of the side", t, 2, 1);
+        // 3,0 4,0 4,2 0,2 0,1 3,1: 0,2 is 3 and 1 away from the end 3,1 of the side from 4,2
+        ContourSimplifier u = Check.picture(4, 3, "3ab/4b/");
+        u.trace(1, 4);
+        Check.due("27 remove 0,1", u.remove(0, 4), 3);
+        Check.due("27 remove 0,2", u.remove(0, 3), 4);
+        fraction("by both coordinates", u, 10, 1);
+        // 0,0 1,0 1,3 4,3 4,4 0,4: 4,4 is 3 and 1 away from the beginning 1,3 of the side to 0,4
+        ContourSimplifier w = Check.picture(4, 4, "b/b/b/4b");
+        w.trace(1, 4);
+        Check.due("27 remove 4,3", w.remove(0, 3), 3);
+        Check.due("27 remove 4,4", w.remove(0, 4), 4);
+        fraction("from the beginning", w, 10, 1);
     }
 }

@@ -108,8 +108,16 @@ public final class ContoursTest {
         Check.due("10 anew", s.trace(1, 4), 1);
         Check.dueText("10 all are present", Check.polygon(s, 0), "1,1 3,1 3,3 1,3");
         Check.due("10 all are counted", s.count(3), 4);
+        Check.due("10 present in the contour", s.contour(0, 4), 4);
         Check.due("10 no steps", s.count(5), 0);
         Check.due("10 no undo", s.undo(), NONE);
+        // a vertex at 2,2 was present before, and must not be in the way now
+        s.set(1, 1, 0);
+        s.trace(1, 4);
+        Check.dueText("10 with a notch", Check.polygon(s, 0), "2,1 3,1 3,3 1,3 1,2 2,2");
+        s.set(1, 1, 1);
+        s.trace(1, 4);
+        Check.due("10 without it", s.remove(0, 0), 4);
     }
 
     private static void traceGreatest() {

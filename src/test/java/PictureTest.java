@@ -198,6 +198,7 @@ public final class PictureTest {
         answer(4, 3, "a3", -102);
         answer(4, 3, "4", -101);
         answer(4, 3, "3/", -101);
+        answer(4, 3, "1/", -101);
         answer(4, 3, "0a", -100);
         answer(4, 3, "10a", -101);
         answer(4, 3, "01a", -100);
@@ -246,6 +247,14 @@ public final class PictureTest {
         Check.due("9 undo", s.undo(), ContourSimplifier.NONE);
         Check.due("9 misfit", s.misfit(), ContourSimplifier.NOT_POSSIBLE);
         Check.due("9 again", s.readPicture(), 0);
+        // nothing of a text that was read before is left
+        s.clearText();
+        Check.type(s, "a2");
+        Check.due("9 ends with a number", s.readPicture(), -102);
+        s.clearText();
+        Check.type(s, "b/");
+        Check.due("9 a shorter text", s.readPicture(), 6);
+        Check.due("9 its only pixel", s.flood(1, 0, 5), 11);
         Check.due("9 the size stays", s.count(6) * 100 + s.count(7), 403);
     }
 }

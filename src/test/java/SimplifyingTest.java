@@ -355,7 +355,9 @@ public final class SimplifyingTest {
         ContourSimplifier s = Check.picture(16, 9, "babababababababa//babababababababa//babababababababa//babababababababa//");
         // each of the 32 squares can lose one vertex, and get it back
         Check.due("22 squares", s.trace(1, 4), 32);
-        int steps = 0;
+        Check.due("22 one ahead of all", s.remove(5, 2), 1);
+        Check.due("22 and back", s.insert(5, 2), 1);
+        int steps = 2;
         for (int i = 0; i < 12; i++) {
             Check.due("22 simplify", s.simplify(1), 32);
             steps = Math.min(600, steps + 32);
