@@ -350,7 +350,7 @@ public final class ContourSimplifier {
         }
 
         boolean has(int x, int y) {
-            return isWithin(x, 0, width - 1) && isWithin(y, 0, height - 1);
+            return x >= 0 && x < width && y >= 0 && y < height;
         }
 
         boolean hasRectangle(int x, int y, int w, int h) {
@@ -846,12 +846,8 @@ public final class ContourSimplifier {
         private boolean hasArrow(int x, int y, int direction) {
             // the pixel at the left hand is the one at the right hand of a left turn
             int left = (direction + 3) % DIRECTIONS;
-            return isInside(x + HAND_X[direction], y + HAND_Y[direction])
-                    && !isInside(x + HAND_X[left], y + HAND_Y[left]);
-        }
-
-        private boolean isInside(int x, int y) {
-            return picture.at(x, y) >= threshold;
+            return picture.at(x + HAND_X[direction], y + HAND_Y[direction]) >= threshold
+                    && picture.at(x + HAND_X[left], y + HAND_Y[left]) < threshold;
         }
 
         private int parentOf(int contour) {
