@@ -1,6 +1,13 @@
+import java.lang.reflect.InvocationTargetException;
+import java.lang.reflect.Method;
+import java.util.Arrays;
+import java.util.Comparator;
+
 /** Counts the answers that are not as due, and ends a test. */
 final class Check {
     private static int wrong = 0;
+    /** The name of the test that runs, ahead of what it finds. */
+    private static String running = "";
 
     private Check() {
     }
@@ -8,15 +15,59 @@ final class Check {
     static void due(String call, long got, long want) {
         if (got != want) {
             wrong++;
-            System.out.println(call + " answered " + got + ", due is " + want);
+            System.out.println(running + call + " answered " + got + ", due is " + want);
         }
     }
 
     static void dueText(String what, String got, String want) {
         if (!got.equals(want)) {
             wrong++;
-            System.out.println(what + " was " + got + ", due is " + want);
+            System.out.println(running + what + " was " + got + ", due is " + want);
         }
+    }
+
+    /**
+     * Runs every method of a class whose name begins with "promise" and a number; each promise from
+     * the first to the last must have one.
+     */
+    static void promises(Class<?> tests, int first, int last) throws IllegalAccessException {
+        Method[] methods = tests.getDeclaredMethods();
+        Arrays.sort(methods, Comparator.comparing(Method::getName));
+        int[] found = new int[last + 1];
+        int count = 0;
+        for (Method method : methods) {
+            if (method.getName().matches("promise[0-9]+[A-Z].*")) {
+                int number = Integer.parseInt(method.getName().replaceAll("promise([0-9]+).*", "$1"));
+                due("a promise of " + tests.getName(), number >= first && number <= last ? 0 : number, 0);
+                found[Math.min(number, last)]++;
+                count++;
+                run(method);
+            }
+        }
+        for (int number = first; number <= last; number++) {
+            due("a test of promise " + number, found[number] > 0 ? 1 : 0, 1);
+        }
+        System.out.println(count + " tests of boundaries");
+    }
+
+    private static void run(Method method) throws IllegalAccessException {
+        running = method.getName() + ": ";
+        try {
+            method.invoke(null);
+        } catch (InvocationTargetException e) {
+            wrong++;
+            System.out.println(running + "threw " + e.getCause());
+        }
+        running = "";
+    }
+
+    /** That an object answers as another one that was made and used alike, but for refused calls. */
+    static void dueUnchanged(ContourSimplifier tried, ContourSimplifier plain) {
+        dueText("state", state(tried), state(plain));
+        due("next", tried.next(), plain.next());
+        due("misfit", tried.misfit(), plain.misfit());
+        due("readPicture", tried.readPicture(), plain.readPicture());
+        dueText("state after readPicture", state(tried), state(plain));
     }
 
     static void type(ContourSimplifier s, String text) {
