@@ -128,6 +128,11 @@ final class Check {
                 all.append(' ').append(s.contour(c, what));
             }
             all.append(' ').append(polygon(s, c));
+            for (int v = 0; v < s.contour(c, 3); v++) {
+                all.append(' ').append(s.vertex(c, v, 3)).append(s.vertex(c, v, 4) == 1 ? '+' : '-');
+            }
+            all.append(' ').append(s.deviation(c, 0)).append('/').append(s.deviation(c, 1));
+            all.append(' ').append(s.bySize(c));
         }
         return all.toString();
     }

@@ -168,6 +168,17 @@ public final class ComparingBoundariesTest {
         }
     }
 
+    static void promise24TheSidesOfOtherContoursDoNotCount() {
+        // 0,0 1,0 1,1 0,1 and 2,0 3,1 2,1
+        ContourSimplifier s = traced(3, 3, "bab", 8, 2);
+        s.remove(1, 1);
+        int[][] points = {{-1, 1, 0, 0}, {0, 1, 1, 0}, {1, 1, 1, 0}, {2, 1, 0, 0}, {3, 1, 0, 0}, {4, 1, 0, 1}, {5, 1, 0, 0}};
+        for (int[] p : points) {
+            Check.due("covers 0 " + p[0] + " " + p[1], s.covers(0, p[0], p[1]), p[2]);
+            Check.due("covers 1 " + p[0] + " " + p[1], s.covers(1, p[0], p[1]), p[3]);
+        }
+    }
+
     static void promise24AHoleCoversWhatIsInIt() {
         ContourSimplifier s = island();
         int[][] points = {{1, 1, 0}, {2, 2, 1}, {3, 3, 1}, {5, 5, 1}, {7, 7, 1}, {8, 5, 0}, {5, 8, 0}};
@@ -302,6 +313,18 @@ public final class ComparingBoundariesTest {
         Check.due("the slope at the left", right.misfit(), 6);
     }
 
+    static void promise26TheCenterOfAPixelDecides() {
+        // the slope passes through the border between the two pixels, whichever corner is removed
+        for (int v = 0; v < 4; v++) {
+            ContourSimplifier lying = traced(3, 3, "bb", 4, 1);
+            lying.remove(0, v);
+            Check.due("two beside each other, without " + v, lying.misfit(), 1);
+            ContourSimplifier standing = traced(3, 3, "b/b", 4, 1);
+            standing.remove(0, v);
+            Check.due("two above each other, without " + v, standing.misfit(), 1);
+        }
+    }
+
     static void promise26PixelsInAHoleFitIfTheyAreOutside() {
         ContourSimplifier s = island();
         Check.due("as traced", s.misfit(), 0);
@@ -389,7 +412,13 @@ public final class ComparingBoundariesTest {
         dueFraction("1,1", t, 0, 4, 5);
         t.remove(0, 0);
         dueFraction("0,0 is farther", t, 0, 36, 13);
-        // the same in the other order of numbers: 0,0 3,0 3,3 2,3 2,1 0,1, without 3,0 and 2,1
+        // 0,0 3,0 3,1 1,1 1,2 3,2 3,3 0,3: of the five beside the side from 3,0 to 0,3 the last is the farthest
+        ContourSimplifier w = traced(3, 3, "3b/b/3b", 8, 1);
+        for (int v : new int[] {2, 3, 5, 6, 4}) {
+            w.remove(0, v);
+        }
+        dueFraction("3,3 to the slope", w, 0, 9, 2);
+        // the other way about in the order of numbers: 0,0 3,0 3,3 2,3 2,1 0,1, without 3,0 and 2,1
         ContourSimplifier u = traced(3, 3, "3b/aab/aab", 4, 1);
         u.remove(0, 4);
         dueFraction("2,1", u, 0, 2, 1);

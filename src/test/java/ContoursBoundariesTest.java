@@ -207,6 +207,35 @@ public final class ContoursBoundariesTest {
         Check.due("undo", s.undo(), NONE);
     }
 
+    static void promise10NothingOfAnEarlierTraceIsLeft() {
+        // each text is read and traced behind a greater one, and by a new object
+        String[][] texts = {{"abb/bab/baa", "aaa/aab/bab"}, {"bbab//4b", "aab//abb"}, {"/aab/b", "//bb"},
+            {"aab/b/bb/3b/3b", "abb//ab"}, {"abb/3b/ab/abb", "aab/abb/bb"}, {"bab/aba/bab", "/ab/"}, {"/ab/", "3b/3b/3b"}};
+        for (String[] pair : texts) {
+            for (int connectivity = 4; connectivity <= 8; connectivity += 4) {
+                ContourSimplifier s = new ContourSimplifier();
+                s.reset(4, 5);
+                Check.type(s, pair[0]);
+                s.readPicture();
+                s.trace(1, connectivity);
+                s.bySize(0);
+                s.simplify(1);
+                s.clearText();
+                Check.type(s, pair[1]);
+                s.readPicture();
+                s.trace(1, connectivity);
+                s.clearText();
+                ContourSimplifier fresh = Check.picture(4, 5, pair[1]);
+                fresh.trace(1, connectivity);
+                Check.dueText(pair[1], Check.state(s), Check.state(fresh));
+                Check.due("simplify " + pair[1], s.simplify(4), fresh.simplify(4));
+                Check.dueText(pair[1] + " simplified", Check.state(s), Check.state(fresh));
+                Check.due("refine " + pair[1], s.refine(), fresh.refine());
+                Check.dueText(pair[1] + " refined", Check.state(s), Check.state(fresh));
+            }
+        }
+    }
+
     static void promise10TheContoursStayWhateverHappensToThePixels() {
         ContourSimplifier s = used();
         String first = Check.polygon(s, 0);
@@ -419,6 +448,27 @@ public final class ContoursBoundariesTest {
         Check.due("x of its first vertex", joined.vertex(1, 0, 0), 2);
         Check.due("y of its first vertex", joined.vertex(1, 0, 1), 2);
         Check.due("parent of the hole with 8", joined.contour(1, 1), 0);
+    }
+
+    static void promise12TheOwnPixelOfAHoleIsAboveItsFirstArrow() {
+        // the island beside the own pixel, at its right or left, touches the floor of the hole at a corner only
+        ContourSimplifier right = traced(5, 6, "5b/b3ab/babab/bbaab/b3ab/5b", 4, 3);
+        Check.due("x of the hole", right.vertex(2, 0, 0), 1);
+        Check.due("y of the hole", right.vertex(2, 0, 1), 3);
+        Check.due("its parent", right.contour(2, 1), 0);
+        Check.due("parent of the island at the right", right.contour(1, 1), 2);
+        ContourSimplifier left = traced(5, 6, "5b/b3ab/babab/baabb/b3ab/5b", 4, 3);
+        Check.due("x of the hole", left.vertex(2, 0, 0), 3);
+        Check.due("y of the hole", left.vertex(2, 0, 1), 3);
+        Check.due("its parent", left.contour(2, 1), 0);
+        Check.due("parent of the island at the left", left.contour(1, 1), 2);
+    }
+
+    static void promise12TheOwnPixelOfAnOuterContourIsBelowItsFirstArrow() {
+        // the pixel below the own pixel is a hole of the contour
+        ContourSimplifier s = traced(3, 3, "ab/bab/ab", 8, 2);
+        Check.due("parent of the outer contour", s.contour(0, 1), NONE);
+        Check.due("parent of the hole", s.contour(1, 1), 0);
     }
 
     static void promise12TheGreatestDepth() {

@@ -435,6 +435,19 @@ public final class PictureBoundariesTest {
         Check.due("behind the wall", s.level(3, 0), 0);
     }
 
+    static void promise5NothingOfAnEarlierFloodIsLeft() {
+        ContourSimplifier s = sized(16, 12);
+        Check.due("all", s.flood(8, 6, 1), 192);
+        for (int x = 1; x < 16; x += 2) {
+            s.fill(x, 0, 1, 12, 2);
+        }
+        Check.due("one column", s.flood(1, 0, 3), 12);
+        Check.due("the others stay", s.level(3, 0), 2);
+        s.set(0, 0, 5);
+        Check.due("one pixel", s.flood(0, 0, 2), 1);
+        Check.due("the columns", s.fill(0, 0, 16, 12, 2), 192 - 7 * 12 - 1);
+    }
+
     static void promise5TheContoursStay() {
         ContourSimplifier s = used();
         String polygon = Check.polygon(s, 0);
@@ -638,6 +651,32 @@ public final class PictureBoundariesTest {
         dueRead(16, 12, "16a", 192);
         dueRead(16, 12, "6a10a", 192);
         dueRead(16, 12, "4a12a", 192);
+    }
+
+    static void promise9EachDigitFrom1To9IsAllowed() {
+        for (int digit = 1; digit <= 9; digit++) {
+            dueRead(9, 3, digit + "j", 27 - digit);
+            dueRead(9, 3, digit + "", -101);
+        }
+        for (int digit = 0; digit <= 6; digit++) {
+            dueRead(16, 12, "1" + digit + "j", 192 - 10 - digit);
+        }
+    }
+
+    static void promise9ANumberOfAnEarlierTextIsForgotten() {
+        ContourSimplifier s = sized(4, 3);
+        Check.type(s, "a3");
+        Check.due("a number at the end", s.readPicture(), -102);
+        Check.due("again", s.readPicture(), -102);
+        s.clearText();
+        Check.type(s, "b");
+        Check.due("one pixel", s.readPicture(), 1);
+        s.clearText();
+        Check.type(s, "3k");
+        Check.due("a fault behind a number", s.readPicture(), -101);
+        s.clearText();
+        Check.type(s, "/b");
+        Check.due("the next text", s.readPicture(), 2);
     }
 
     static void promise9ADigitIsAFaultIfTheNumberIsGreaterThanWhatIsLeft() {

@@ -269,6 +269,27 @@ public final class SimplifyingBoundariesTest {
         dueRemoved(s, 0, 3, 16);
     }
 
+    static void promise17AVertexOnTheBorderIsInTheWayOfAnInnerCornerToo() {
+        // 0,0 3,0 3,1 1,1 1,3 0,3: 2,2 of the other contour is on the line from 3,1 to 1,3
+        ContourSimplifier s = traced(3, 3, "3b/b/bab", 4, 2);
+        dueNotRemoved(s, 0, 3, 4);
+        dueRemoved(s, 1, 0, 1);
+        dueRemoved(s, 0, 3, 4);
+    }
+
+    static void promise17AVertexJustBeyondTheTriangleIsNotInTheWay() {
+        // 2,3 3,3 1,2, and 1,3
+        dueRemoved(without(traced(3, 3, "3b/3b/bab", 4, 1), 0, 4), 0, 3, 1);
+        // 0,1 1,2 0,0, and 0,2
+        dueRemoved(without(traced(3, 3, "3b/abb/3b", 8, 1), 0, 6), 0, 7, 1);
+        // 1,2 3,1 1,3, and 2,1
+        dueRemoved(without(traced(3, 3, "bb/3b/b", 8, 1), 0, 4), 0, 5, 2);
+        // 2,2 3,1 2,3, and 2,1
+        dueRemoved(without(traced(3, 3, "bb/abb/bb", 4, 1), 0, 4), 0, 5, 1);
+        // 1,2 1,3 0,1, and 1,1
+        dueRemoved(without(traced(3, 3, "abb/3b/abb", 8, 1), 0, 5), 0, 4, 1);
+    }
+
     static void promise17AnotherVertexAtItsOwnPlaceIsInTheWay() {
         ContourSimplifier own = traced(3, 3, "/bb/aab", 8, 1);
         // 0,1 2,1 2,2 3,2 3,3 2,3 2,2 0,2
@@ -423,6 +444,17 @@ public final class SimplifyingBoundariesTest {
         dueNotInserted(s, 0, 2, 2);
     }
 
+    static void promise18ASideFromANeighbourAcrossTheOtherWayIsInTheWay() {
+        // the side from 1,2 to its neighbour 3,1 is across the way from 3,0 to its neighbour 2,3
+        ContourSimplifier before = without(traced(4, 3, "3ab/a3b/bab", 8, 1), 0, 0, 3, 4, 6, 8, 1, 12, 2);
+        Check.dueText("polygon", Check.polygon(before, 0), "2,3 1,2 0,3 0,2 1,2 3,1");
+        dueNotInserted(before, 0, 0, 1);
+        // the side from its neighbour 2,1 to 2,3 is across the way from its neighbour 0,2 to 3,1
+        ContourSimplifier behind = without(traced(3, 4, "abb/ab/bb/b", 4, 1), 0, 2, 5, 6, 1, 0, 9);
+        Check.dueText("polygon", Check.polygon(behind, 0), "2,1 2,3 0,4 0,2");
+        dueNotInserted(behind, 0, 2, 1);
+    }
+
     static void promise18ASideOfAnotherPolygonAcrossBothWaysIsInTheWay() {
         // the side from 0,4 to 3,0 is across both sides of the corner 1,2 of the hole
         ContourSimplifier s = without(without(traced(3, 4, "3b/3b/bab/3b", 8, 2), 1, 3), 0, 0);
@@ -470,6 +502,40 @@ public final class SimplifyingBoundariesTest {
         ContourSimplifier t = without(traced(3, 3, "abb/abb/3b", 4, 1), 0, 1, 0, 2);
         Check.dueText("polygon", Check.polygon(t, 0), "0,3 0,2 1,2");
         dueNotInserted(t, 0, 1, 0);
+    }
+
+    static void promise18WithASizeOf0ItMayLieOnASideOfAnyDirection() {
+        // 3,1 on the side from 3,0 to 3,3
+        ContourSimplifier upright = without(traced(3, 3, "3b/bb/3b", 4, 1), 0, 2, 3, 5, 4);
+        Check.dueText("upright", Check.polygon(upright, 0), "0,0 3,0 3,3 0,3");
+        dueInserted(upright, 0, 2, 0);
+        // 2,1 on the side from 0,1 to 3,1
+        ContourSimplifier level = without(traced(3, 3, "ab/3b/bb", 4, 1), 0, 0, 1, 2, 9, 4, 5, 6);
+        Check.dueText("level", Check.polygon(level, 0), "3,1 0,3 0,1");
+        dueInserted(level, 0, 2, 0);
+        // 1,2 on the side from 0,1 to 2,3
+        ContourSimplifier falling = without(traced(4, 3, "/b/bb", 4, 1), 0, 3, 1, 2);
+        Check.dueText("falling", Check.polygon(falling, 0), "0,1 2,3 0,3");
+        dueInserted(falling, 0, 2, 0);
+        // 2,2 on the side from 1,3 to 3,1
+        ContourSimplifier rising = without(traced(3, 3, "/aab/abb", 4, 1), 0, 0, 4, 5);
+        Check.dueText("rising", Check.polygon(rising, 0), "3,1 3,3 1,3");
+        dueInserted(rising, 0, 5, 0);
+    }
+
+    static void promise18WithASizeOf0ItMustNotLieBeyondALevelOrUprightSide() {
+        // 0,1 is in line with 1,1 and 3,1
+        ContourSimplifier left = without(traced(3, 3, "bb/abb/abb", 4, 1), 0, 2, 7, 0, 1);
+        Check.dueText("left", Check.polygon(left, 0), "3,1 3,3 1,3 1,1");
+        dueNotInserted(left, 0, 7, 0);
+        // 4,1 is in line with 1,1 and 3,1
+        ContourSimplifier right = without(traced(4, 3, "babb/abb/abb", 8, 1), 0, 0, 3, 6, 4, 5);
+        Check.dueText("right", Check.polygon(right, 0), "1,0 1,1 3,1 3,3 1,3 1,1 0,1");
+        dueNotInserted(right, 0, 6, 0);
+        // 1,0 is in line with 1,3 and 1,1
+        ContourSimplifier above = without(traced(3, 3, "b/3b/abb", 4, 1), 0, 6, 1, 0, 7);
+        Check.dueText("above", Check.polygon(above, 0), "1,1 3,1 3,3 1,3");
+        dueNotInserted(above, 0, 1, 0);
     }
 
     static void promise18TheFirstAndTheLastVertexComeBackAtTheirPlaces() {
