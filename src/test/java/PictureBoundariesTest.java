@@ -763,6 +763,17 @@ public final class PictureBoundariesTest {
         }
     }
 
+    static void promise9EveryOtherCharacterIsAFaultWhereAnyNumberHasRoom() {
+        // in a narrow row the sign behind 9 would be refused as a number of 10, whatever it is
+        for (int code = 0; code <= Character.MAX_VALUE; code++) {
+            char character = (char) code;
+            if ("/123456789abcdefghij".indexOf(character) < 0) {
+                dueRead(16, 12, String.valueOf(character), -100);
+                dueRead(16, 12, "b" + character, -101);
+            }
+        }
+    }
+
     static void promise9TheFirstFaultIsTold() {
         dueRead(4, 3, "bk5x", -101);
         dueRead(4, 3, "bbbbb////", -104);
