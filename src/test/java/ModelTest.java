@@ -106,9 +106,7 @@ public final class ModelTest {
                 agree("clearText", s.clearText(), m.clearText());
             }
             for (int i = draw(0, 30); i > 0; i--) {
-                int kind = draw(0, 40);
-                char c = kind < 22 ? (char) draw('a', 'k') : kind < 32 ? '/' : kind < 40 ? (char) draw('0', '9')
-                        : (char) draw(0, 65535);
+                char c = character();
                 agree("type " + (int) c, s.type(c), m.type(c));
             }
             agree("readPicture", s.readPicture(), m.readPicture());
@@ -118,6 +116,21 @@ public final class ModelTest {
                 look();
             }
         }
+    }
+
+    private char character() {
+        int kind = draw(0, 41);
+        if (kind < 22) {
+            return (char) draw('a', 'k');
+        }
+        if (kind < 32) {
+            return '/';
+        }
+        if (kind < 40) {
+            return (char) draw('0', '9');
+        }
+        // of all signs, those near the allowed ones would hardly ever be drawn
+        return (char) (kind == 40 ? draw(' ', '~') : draw(0, 65535));
     }
 
     /** Numbers in and out of range alike, in all calls. */

@@ -764,12 +764,15 @@ public final class PictureBoundariesTest {
     }
 
     static void promise9EveryOtherCharacterIsAFaultWhereAnyNumberHasRoom() {
-        // in a narrow row the sign behind 9 would be refused as a number of 10, whatever it is
+        // a narrow row would refuse a sign beside the digits as too great a number, if it were taken for one
         for (int code = 0; code <= Character.MAX_VALUE; code++) {
             char character = (char) code;
-            if ("/123456789abcdefghij".indexOf(character) < 0) {
+            if ("123456789abcdefghij/".indexOf(character) < 0) {
                 dueRead(16, 12, String.valueOf(character), -100);
                 dueRead(16, 12, "b" + character, -101);
+            }
+            if ("0123456abcdefghij".indexOf(character) < 0) {
+                dueRead(16, 12, "1" + character, -101);
             }
         }
     }
